@@ -5,8 +5,12 @@ public final class DeliverTest {
     askIsTold();
     tellsMakeAQuorum();
     replicaCountsOnce();
+    secondTellIsNotHeard();
+    answersBearTheMessagesSerial();
     greatestTagWins();
-    tagGrowsPastOwnAndTold();
+    tagGrowsPastTheTold();
+    tagGrowsPastItsOwn();
+    othersTagsAreNotItsOwn();
     storeKeepsTheGreater();
     storedMakesAQuorum();
     failedReplicaTakesNothing();
@@ -84,6 +88,36 @@ public final class DeliverTest {
     Due.is("finished()", x.finished(), 0);
   }
 
+  /** Replica 0 has stored between its two TELLs: the second one's greater tag must not reach the client. */
+  private static void secondTellIsNotHeard() {
+    QuorumRegister x = new QuorumRegister();
+    x.read(2);
+    x.repeat(0);
+    Runs.ask(x, 2, 0);
+    x.write(0, 9);
+    Runs.ask(x, 0, 1, 2, 3);
+    Runs.pass(x, Runs.STORE, 0, 0);
+    Runs.pass(x, Runs.ASK, 2, 0);
+    Runs.dueMessage(x, Runs.find(x, Runs.TELL, 2, 0), Runs.TELL, 2, 0, 1, 4, 9);
+    Runs.pass(x, Runs.TELL, 2, 0);
+    Runs.ask(x, 2, 1, 2);
+    Runs.dueMessage(x, Runs.find(x, Runs.STORE, 2, 4), Runs.STORE, 2, 4, 1, 0, 0);
+  }
+
+  private static void answersBearTheMessagesSerial() {
+    QuorumRegister x = new QuorumRegister();
+    x.write(1, 9);
+    Runs.ask(x, 1, 0, 1, 2);
+    x.leave(1);
+    x.read(1);
+    Runs.pass(x, Runs.STORE, 1, 0);
+    Runs.dueMessage(x, x.messages() - 1, Runs.STORED, 1, 0, 1, 0, 0);
+    Runs.pass(x, Runs.ASK, 1, 3);
+    Runs.dueMessage(x, x.messages() - 1, Runs.TELL, 1, 3, 1, 0, 0);
+    Runs.pass(x, Runs.ASK, 1, 0);
+    Runs.dueMessage(x, x.messages() - 1, Runs.TELL, 1, 0, 2, 5, 9);
+  }
+
   /** Replica 0 holds client 0's first write, replica 1 client 1's: the same number, the greater tag. */
   private static QuorumRegister withTwoTags() {
     QuorumRegister x = new QuorumRegister();
@@ -115,31 +149,44 @@ public final class DeliverTest {
     Runs.dueMessage(x, Runs.find(x, Runs.STORE, 2, 0), Runs.STORE, 2, 0, 1, 4, 100);
   }
 
-  private static void tagGrowsPastOwnAndTold() {
+  private static void tagGrowsPastTheTold() {
     QuorumRegister x = withTwoTags();
     Runs.clear(x);
     x.write(2, 300);
     Runs.ask(x, 2, 0, 1, 2);
     Runs.dueMessage(x, Runs.find(x, Runs.STORE, 2, 0), Runs.STORE, 2, 0, 1, 10, 300);
-    x.write(0, 400);
-    Runs.ask(x, 0, 2, 3, 4);
-    Runs.dueMessage(x, Runs.find(x, Runs.STORE, 0, 1), Runs.STORE, 0, 1, 2, 8, 400);
     Runs.store(x, 2, 2, 3, 4);
-    x.leave(0);
     Runs.clear(x);
-    x.write(1, 500);
+    x.write(1, 400);
     Runs.ask(x, 1, 1, 2, 3);
-    Runs.dueMessage(x, Runs.find(x, Runs.STORE, 1, 1), Runs.STORE, 1, 1, 2, 13, 500);
+    Runs.dueMessage(x, Runs.find(x, Runs.STORE, 1, 1), Runs.STORE, 1, 1, 2, 13, 400);
+  }
+
+  /** No replica hears of the tags that client 1 makes here; a read between them makes none. */
+  private static void tagGrowsPastItsOwn() {
+    QuorumRegister x = withTwoTags();
+    Runs.clear(x);
+    x.write(1, 300);
+    Runs.ask(x, 1, 2, 3, 4);
+    Runs.dueMessage(x, Runs.find(x, Runs.STORE, 1, 2), Runs.STORE, 1, 2, 2, 9, 300);
     Runs.clear(x);
     x.leave(1);
     x.read(1);
     Runs.ask(x, 1, 0, 1, 2);
     Runs.store(x, 1, 0, 1, 2);
-    Runs.dueOperation(x, 1, 1, 3, 0, 300, 10);
+    Runs.dueOperation(x, 0, 1, 3, 0, 200, 5);
     Runs.clear(x);
-    x.write(1, 600);
+    x.write(1, 400);
     Runs.ask(x, 1, 0, 1, 2);
-    Due.is("the tag made after a read", x.message(Runs.find(x, Runs.STORE, 1, 1), 4), 17);
+    Runs.dueMessage(x, Runs.find(x, Runs.STORE, 1, 1), Runs.STORE, 1, 1, 4, 13, 400);
+  }
+
+  private static void othersTagsAreNotItsOwn() {
+    QuorumRegister x = withTwoTags();
+    Runs.clear(x);
+    x.write(2, 300);
+    Runs.ask(x, 2, 2, 3, 4);
+    Runs.dueMessage(x, Runs.find(x, Runs.STORE, 2, 1), Runs.STORE, 2, 1, 1, 6, 300);
   }
 
   private static void storeKeepsTheGreater() {

@@ -102,7 +102,7 @@ public final class NetworkTest {
       Due.is("message(4, " + n + ")", x.message(4, n), 0);
       Due.is("message(" + n + ", " + n + ")", x.message(n, n), -1);
     }
-    // Of message 1 the cell before its kind and the cell behind its value belong to its neighbours.
+    // A message with neighbours on both sides, whose cells an unchecked 'what' would reach.
     x.write(1, 9);
     Runs.ask(x, 1, 0, 1, 2);
     int i = Runs.find(x, Runs.STORE, 1, 2);
