@@ -92,6 +92,10 @@ public final class QuorumRegister {
     int serial = pool.cell(i, SERIAL);
     int tag = pool.cell(i, TAG);
     int value = pool.cell(i, VALUE);
+    // No message is sent with others than these; they are looked at because they become indices below.
+    if (!isClient(c) || !isReplica(r)) {
+      return -1;
+    }
     pool.remove(i);
     int left = pool.count;
     switch (kind) {

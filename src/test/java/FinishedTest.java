@@ -84,20 +84,11 @@ public final class FinishedTest {
         x.lose(0);
       }
       pool -= surplus;
-      finishOne(x, pool, done % 3, 1000 + done);
+      x.write(done % 3, 1000 + done);
+      Runs.carry(x, pool);
       left -= surplus + 13;
       pool += 4;
       done++;
-    }
-  }
-
-  /** The messages for replicas 3 and 4 stay behind. */
-  private static void finishOne(QuorumRegister x, int pool, int c, int v) {
-    x.write(c, v);
-    for (int first : new int[] {pool, pool + 2, pool + 2, pool + 4}) {
-      for (int r = 0; r < 3; r++) {
-        x.deliver(first);
-      }
     }
   }
 

@@ -8,7 +8,24 @@ final class Runs {
   /** Numbers that are no index of anything, whatever the state. */
   static final int[] NO_INDEX = {-1, -2, -5, 512, 1 << 29, 1 << 30, Integer.MAX_VALUE, Integer.MIN_VALUE, Integer.MIN_VALUE / 6};
 
+  /** Too small for any index. */
+  static final int[] TOO_SMALL = {-1, -2, -5, -64, -1000, Integer.MIN_VALUE / 6, Integer.MIN_VALUE / 5, Integer.MIN_VALUE + 1, Integer.MIN_VALUE};
+
   private Runs() {}
+
+  /** Too large where n are counted from 0. */
+  static int[] tooLarge(int n) {
+    return new int[] {n, n + 1, n + 4, 100, 1000, 1 << 29, 1 << 30, Integer.MAX_VALUE - 1, Integer.MAX_VALUE};
+  }
+
+  /** Replicas 0, 1 and 2 carry the operation that was begun at this length of the pool; 4 messages to 3 and 4 stay. */
+  static void carry(QuorumRegister x, int pool) {
+    for (int first : new int[] {pool, pool + 2, pool + 2, pool + 4}) {
+      for (int n = 0; n < 3; n++) {
+        x.deliver(first);
+      }
+    }
+  }
 
   /** The first message of that kind between client c and replica r in the pool; -1 if there is none. */
   static int find(QuorumRegister x, int kind, int c, int r) {
